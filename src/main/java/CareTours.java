@@ -542,6 +542,7 @@ public final class CareTours {
         private static final int FAR = 1000000;
 
         private final Part[] chosen = new Part[MOST_CHOSEN];
+        /** Walks from node to node; from home to home it stays 0, the tour without stops. */
         private final int[] legs = new int[NODES * NODES];
         /** For a set and a node: the least walks from the node by all of the set and home. */
         private final int[] rest = new int[(1 << MOST_CHOSEN) * NODES];
@@ -561,7 +562,6 @@ public final class CareTours {
         }
 
         private void measure(House house, Place home) {
-            legs[HOME * NODES + HOME] = 0;
             for (int i = 0; i < count; i++) {
                 int fromHome = legOf(house, home, chosen[i].place);
                 legs[HOME * NODES + i] = fromHome;
