@@ -21,6 +21,16 @@ final class Calls {
         }
     }
 
+    /** A call that is written as a text: "walk 0 2". */
+    static String answer(CareTours x, String call) {
+        String[] words = call.split(" +");
+        int[] numbers = new int[words.length - 1];
+        for (int i = 0; i < numbers.length; i++) {
+            numbers[i] = Integer.parseInt(words[i + 1]);
+        }
+        return answer(x, words[0], numbers);
+    }
+
     static String text(String name, int... a) {
         StringBuilder text = new StringBuilder(name);
         for (int number : a) {

@@ -1,14 +1,15 @@
-import java.util.Arrays;
-
 /**
  * A run of calls on one object, written as a text: a call a line, "walk 0 2 = 20"; the answers
  * "argument" and "state" are the two exceptions. Behind "#" stands a comment.
  */
 final class Run {
+    private static final int MOST_CALLS = 512;
+
     private static int wrong = 0;
 
     private final String title;
     private final CareTours tours;
+    private int calls = 0;
 
     private Run(String title, int rate) {
         this.title = title;
@@ -56,9 +57,11 @@ final class Run {
     }
 
     private Run check(String call, String want) {
-        String[] words = call.split(" +");
-        int[] numbers = Arrays.stream(words).skip(1).mapToInt(Integer::parseInt).toArray();
-        report(title + ": " + call, Calls.answer(tours, words[0], numbers), want);
+        report(title + ": " + call, Calls.answer(tours, call), want);
+        calls++;
+        if (calls > MOST_CALLS) {
+            report(title + ": " + call, "call " + calls, "at most 512 calls, later ones are free");
+        }
         return this;
     }
 
